@@ -26,8 +26,10 @@ public final class AddressesTest {
     CartridgeDesk desk = new CartridgeDesk();
     Bench.addSection(desk, 0, 53, 0, 119, 0);
     desk.link(banks);
+    desk.run(1);
     for (int b = 0; b < banks; b++) {
       desk.spoil(b * 64 + 63, b);
+      desk.spoil(b * 64, 100 + b);
       desk.spoil(b * 64 + 32, 55);
       desk.spoil(b * 64 + 33, 0);
       desk.spoil(b * 64 + 34, 53);
@@ -36,7 +38,6 @@ public final class AddressesTest {
       desk.spoil(b * 64 + 37, 192);
       desk.spoil(b * 64 + 38, 32);
     }
-    desk.run(1);
     return desk;
   }
 
@@ -58,6 +59,8 @@ public final class AddressesTest {
     String what = banks + " banks, " + low + " " + high + " " + mode + ": ";
     check.due(what + "switches", desk.register(Bench.SWITCHES), 4 * seenLow + 2 * high + mode);
     check.due(what + "peek(63)", desk.peek(63), mode == 1 ? 4 * high % banks : 0);
+    check.due(what + "peek(0)", desk.peek(0), 100 + (mode == 1 ? 4 * high % banks : 0));
+    check.due(what + "peek(64)", desk.peek(64), 100 + (4 * high + seenLow) % banks);
     check.due(what + "peek(127)", desk.peek(127), (4 * high + seenLow) % banks);
   }
 

@@ -8,6 +8,7 @@ public final class MachineTest {
 
   public static void main(String[] args) {
     restart();
+    restartForgetsAll();
     restartWithoutImage();
     raise();
     run();
@@ -56,6 +57,27 @@ public final class MachineTest {
     soon.restart();
     soon.run(1);
     check.due("no 4 is left over", soon.register(Bench.ENABLED), 0);
+  }
+
+  private static void restartForgetsAll() {
+    CartridgeDesk desk = Bench.ready(2, 0, 55, 10, 53, 0, 119, 53, 128, 119, 53, 192, 119, 55, 1,
+        53, 96, 119, 48, 7, 168, 8, 4, 0);
+    desk.run(15);
+    check.due("RAM", desk.peek(128), 10);
+    check.due("192", desk.peek(192), 10);
+    check.due("switches", desk.register(Bench.SWITCHES), 21);
+    check.due("B", desk.register(0), 7);
+    check.due("flags", desk.register(Bench.FLAGS), Bench.C);
+    check.due("ENABLED", desk.register(Bench.ENABLED), 1);
+    desk.restart();
+    check.due("192", desk.peek(192), 0);
+    check.due("switches", desk.register(Bench.SWITCHES), 4);
+    check.due("B", desk.register(0), 0);
+    check.due("flags", desk.register(Bench.FLAGS), 0);
+    check.due("ENABLED", desk.register(Bench.ENABLED), 0);
+    desk.run(4);
+    check.due("RAM is on again", desk.register(Bench.SWITCHES), 20);
+    check.due("and is 0", desk.peek(128), 0);
   }
 
   private static void restartWithoutImage() {

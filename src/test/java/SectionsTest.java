@@ -10,6 +10,7 @@ public final class SectionsTest {
     bytes();
     bytesAreFull();
     mended();
+    mendedAtTheEdges();
     clear();
     check.end();
   }
@@ -125,6 +126,27 @@ public final class SectionsTest {
     for (int k = 0; k < due.length; k++) {
       check.due("mended byte " + k, desk.image(32 + k), due[k]);
     }
+  }
+
+  private static void mendedAtTheEdges() {
+    CartridgeDesk desk = new CartridgeDesk();
+    desk.section(1);
+    desk.mended(2, 1);
+    check.none("the first byte lacks its section", () -> desk.link(2));
+    for (int k = 0; k < 47; k++) {
+      desk.mended(1, 0);
+    }
+    check.state("a 49th mended byte", () -> desk.mended(1, 0));
+    desk.section(0);
+    check.due("48 mended bytes", desk.link(2), 48);
+    check.due("the first", desk.image(64), 0);
+    check.due("the last", desk.image(64 + 47), 64);
+    desk.clear();
+    desk.section(0);
+    desk.mended(1, 9);
+    desk.clear();
+    desk.section(0);
+    check.due("a mended byte that is gone asks for none", desk.link(2), 0);
   }
 
   private static void clear() {
