@@ -281,6 +281,13 @@ public final class MachineTest {
     check.due("then comes the interrupt", desk.register(Bench.PLACE), 24);
     check.due("what was put", desk.peek(239), 70);
     check.due("B", desk.register(0), 1);
+    CartridgeDesk between = Bench.ran(5, 53, 254, 54, 1, 4, 0, 4, 0, 2);
+    between.raise(0);
+    between.run(1);
+    check.due("an interrupt behind a second 4", between.register(Bench.PLACE), 16);
+    check.due("not ENABLED", between.register(Bench.ENABLED), 0);
+    between.run(1);
+    check.due("the 4 waits for the handler's first", between.register(Bench.ENABLED), 1);
     CartridgeDesk back = Bench.ran(4, 53, 254, 54, 1, 55, 75, 39, 5, 2, 2, 2, 16, 2);
     back.raise(0);
     back.run(1);
