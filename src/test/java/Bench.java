@@ -26,6 +26,18 @@ final class Bench {
     return s;
   }
 
+  /** A section of so many bytes, all alike; four come with a call, to keep below 512 calls. */
+  static int addFilled(CartridgeDesk desk, int bank, int length, int value) {
+    int s = desk.section(bank);
+    int left = length;
+    while (left > 0) {
+      int n = Math.min(left, 4);
+      desk.bytes(value * 0x01010101, n);
+      left -= n;
+    }
+    return s;
+  }
+
   /** Two banks, the program at 64, and the machine already there. */
   static CartridgeDesk at64(int... program) {
     return ready(2, 1, program);
@@ -63,6 +75,15 @@ final class Bench {
     }
     return code;
   }
+
+  /** Flags, then A, B and L, then the code, of which one step is done. */
+  static CartridgeDesk obeyed(int flags, int a, int b, int... code) {
+    int[] set = {55, a, 48, b, 53, 200};
+    return ran(FLAG_STEPS + 4, joined(makeFlags(flags), set, code));
+  }
+
+  /** Where the code of obeyed begins. */
+  static final int OBEYED_AT = 64 + FLAG_BYTES + 6;
 
   static int[] joined(int[]... parts) {
     int n = 0;

@@ -6,11 +6,19 @@ final class Check {
   private static final int MOST_PRINTED = 20;
 
   private final String name;
+  private String sentence = "";
+  private int sentences = 0;
   private int done = 0;
   private int wrong = 0;
 
   Check(String name) {
     this.name = name;
+  }
+
+  /** What follows tests these words of the document; what is not as due is printed with them. */
+  void sentence(String words) {
+    sentence = " [" + words + "]";
+    sentences++;
   }
 
   void due(String call, long got, long want) {
@@ -48,12 +56,13 @@ final class Check {
   void report(String text) {
     wrong++;
     if (wrong <= MOST_PRINTED) {
-      System.out.println(name + ": " + text);
+      System.out.println(name + ": " + text + sentence);
     }
   }
 
   void end() {
-    System.out.println(name + ": " + done + " answers, " + wrong + " not as due");
+    String of = sentences == 0 ? "" : " of " + sentences + " sentences";
+    System.out.println(name + ": " + done + " answers" + of + ", " + wrong + " not as due");
     if (wrong != 0) {
       System.exit(1);
     }
