@@ -69,6 +69,7 @@ public final class EdgesOfArithmeticTest {
         CartridgeDesk desk = Bench.ran(Bench.FLAG_STEPS + 3, set);
         check.due(call + ": register(" + r + ")", desk.register(r), row[2]);
         check.due(call + ": flags", desk.register(Bench.FLAGS), row[3]);
+        check.due(call + ": STACK", desk.register(Bench.STACK), 240);
       }
     }
   }

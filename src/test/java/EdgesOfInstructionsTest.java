@@ -231,9 +231,13 @@ public final class EdgesOfInstructionsTest {
     check.sentence("10: PLACE is taken from the stack; 5: like 10, and ENABLED");
     for (int code : new int[] {5, 10, 208}) {
       for (int place : new int[] {0, 63, 64, 255}) {
-        CartridgeDesk desk = Bench.ran(3, 48, place, 32, code);
+        int[] set = Bench.joined(Bench.makeFlags(ALL), new int[] {55, 171, 48, place, 32, code});
+        CartridgeDesk desk = Bench.ran(Bench.FLAG_STEPS + 4, set);
         check.due("PLACE by " + code, desk.register(PLACE), place);
         check.due("STACK", desk.register(STACK), 240);
+        check.due("A stays", desk.register(Bench.A), 171);
+        check.due("flags stay", desk.register(Bench.FLAGS), ALL);
+        check.due("nothing is sent", desk.sent(), 0);
         check.due("ENABLED", desk.register(Bench.ENABLED), code == 5 ? 1 : 0);
       }
       CartridgeDesk last = withStack(255, code);

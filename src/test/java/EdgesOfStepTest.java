@@ -394,6 +394,7 @@ public final class EdgesOfStepTest {
     check.due("run(5)", desk.run(5), 0);
     check.due("PLACE", desk.register(PLACE), 70);
     check.due("the line", desk.peek(255), 1);
+    check.due("ENABLED stays", desk.register(ENABLED), 1);
     check.due("state", desk.state(), 2);
   }
 }
